@@ -373,6 +373,11 @@ public final class ActsTest {
         c.due("length", x.length(0), 0);
         c.due("mend of none", x.mend(0), 0);
         c.due("house(1)", x.house(1), acts + 2);
+        x.fill(0, 64, 30);
+        c.due("mend of 30", x.mend(0), 4);
+        c.due("length", x.length(0), 26);
+        Check.set(x, 0, Check.times(30, 95));
+        c.due("mend of 30 that stay", x.mend(0), 0);
         for (int no : NO_TEXTS) {
             c.throwsIt("mend(" + no + ")", x, Check.NO_PLACE, () -> x.mend(no));
         }

@@ -133,6 +133,10 @@ public final class PiecesTest {
         c.due("parted(0, 0)", x.parted(0, 0), -1);
         c.due("parted(0, 4)", x.parted(0, 4), -1);
         c.due("parted(1, 0)", x.parted(1, 0), 0);
+        Check.set(x, 2, '1', 'a', ' ');
+        c.due("parted(2, 4), the first one is no piece", x.parted(2, 4), -1);
+        c.due("parted(2, 2), the last one is no piece", x.parted(2, 2), -1);
+        c.due("parted(2, 6)", x.parted(2, 6), 3);
         Check.set(x, 2, Check.times(30, 45));
         c.due("parted of 30", x.parted(2, (1 << 30) - 2), 30);
         for (int no : new int[] {1, 9, 16, 24, 1 << 30, -1, -8, Integer.MIN_VALUE,

@@ -80,6 +80,8 @@ public final class TextsTest {
         c.due("count(0, 7)", x.count(0, 7), 2);
         c.due("count(0, 13)", x.count(0, 13), 0);
         c.due("count(1, 0)", x.count(1, 0), 0);
+        x.cut(0, 0, 2);
+        c.due("count of those that stay", x.count(0, 0), 2);
         for (int no : NO_TEXTS) {
             c.throwsIt("count(" + no + ", 0)", x, Check.NO_PLACE, () -> x.count(no, 0));
             c.throwsIt("count(" + no + ", 14)", x, Check.NO_PLACE, () -> x.count(no, 14));
@@ -97,6 +99,10 @@ public final class TextsTest {
         c.due("countKind(0, 30)", x.countKind(0, 30), 0);
         c.due("countKind(0, 0)", x.countKind(0, 0), 0);
         c.due("countKind(1, 2)", x.countKind(1, 2), 0);
+        x.cut(0, 0, 2);
+        c.due("countKind of those that stay", x.countKind(0, 2), 1);
+        Check.set(x, 1, Check.times(30, 97));
+        c.due("countKind of 30", x.countKind(1, 2), 30);
         for (int no : NO_TEXTS) {
             c.throwsIt("countKind(" + no + ", 1)", x, Check.NO_PLACE, () -> x.countKind(no, 1));
             c.throwsIt("countKind(" + no + ", 31)", x, Check.NO_PLACE, () -> x.countKind(no, 31));
@@ -156,6 +162,9 @@ public final class TextsTest {
         c.due("alike(0, 2)", x.alike(0, 2), false);
         x.put(1, 2, 'x');
         c.due("alike with another kind", x.alike(0, 1), false);
+        x.put(1, 2, '0');
+        x.put(1, 0, '0');
+        c.due("alike with another kind at first", x.alike(0, 1), false);
         x.drop(1, 2);
         c.due("alike(0, 1) of a front", x.alike(0, 1), false);
         c.due("alike(1, 0) of a front", x.alike(1, 0), false);
