@@ -1,7 +1,8 @@
+import java.math.BigInteger;
 import java.util.ArrayList;
 import java.util.List;
 
-/** The document once more, by trying out all that can be; slow, and with nothing of the class. */
+/** Signs, rows and pieces as the document tells them, by trying out all that can be. */
 final class PlainModel {
 
     private static final String[] KIND_ROWS = {
@@ -167,5 +168,14 @@ final class PlainModel {
             }
         }
         return pieces;
+    }
+
+    /** Reckoned without any wrap-around; what is above 64 bits goes at the end. */
+    static long checksum(List<Integer> values) {
+        BigInteger d = BigInteger.valueOf(8005);
+        for (int value : values) {
+            d = d.multiply(BigInteger.valueOf(31)).add(BigInteger.valueOf(value));
+        }
+        return d.longValue();
     }
 }

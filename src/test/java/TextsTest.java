@@ -1,10 +1,13 @@
-/** Promises 28 to 38: what is asked of texts, but for their pieces. */
+/** Promises 28 to 38: what is asked of texts, but for their pieces; sentence by sentence. */
 public final class TextsTest {
 
-    private static final int[] NO_TEXTS = {-1, 3, Integer.MIN_VALUE, Integer.MAX_VALUE};
-    private static final int[] NO_QUESTIONS = {-1, 14, Integer.MIN_VALUE, Integer.MAX_VALUE};
+    private static final String NO_TEXT = "Throws IndexOutOfBoundsException if there is no such TEXT";
+    private static final String NO_TEXT_BOTH = NO_TEXT + " (both)";
+    private static final String NO_QUESTION = "Throws IllegalArgumentException if question is not 0 to 13";
+    private static final String FIRST_NAMED = "If several exceptions apply, the one that is named first";
 
-    private static final Check c = new Check();
+    private static final String A29 = "a".repeat(29);
+    private static final String A30 = "a".repeat(30);
 
     public static void main(String[] args) {
         length();
@@ -15,223 +18,232 @@ public final class TextsTest {
         countKind();
         isAll();
         first();
+        firstThrows();
         alike();
         names();
-        askingIsNoAct();
-        c.end();
+        namesThrow();
+        Tally.end();
+    }
+
+    private static void sentence(int promise, String words) {
+        Tally.sentence(promise, words);
     }
 
     private static void length() {
-        c.promise(28);
-        Kindcutter x = Check.with("abc");
-        Check.set(x, 2, Check.times(30, 9));
-        c.due("length(0)", x.length(0), 3);
-        c.due("length(1)", x.length(1), 0);
-        c.due("length(2)", x.length(2), 30);
-        for (int no : NO_TEXTS) {
-            c.throwsIt("length(" + no + ")", x, Check.NO_PLACE, () -> x.length(no));
-        }
+        sentence(28, "Returns how many SIGNS it has");
+        Run.of("", "a", A30).due("length(0)", 0).due("length(1)", 1).due("length(2)", 30)
+            .due("add(2, 98)", Run.REFUSED).due("length(2)", 30);
+        Run.of(A29).due("length(0)", 29);
+        sentence(28, NO_TEXT);
+        Run.each("length(%)", Run.NO_TEXTS, Run.NO_PLACE, "a", "b", "c");
     }
 
     private static void sign() {
-        c.promise(29);
-        Kindcutter x = Check.with(0, 128, 255);
-        c.due("sign(0, 0)", x.sign(0, 0), 0);
-        c.due("sign(0, 1)", x.sign(0, 1), 128);
-        c.due("sign(0, 2)", x.sign(0, 2), 255);
-        for (int no : NO_TEXTS) {
-            c.throwsIt("sign(" + no + ", 0)", x, Check.NO_PLACE, () -> x.sign(no, 0));
-            c.throwsIt("sign(0, " + no + ")", x, Check.NO_PLACE, () -> x.sign(0, no));
-        }
-        c.throwsIt("sign(1, 0)", x, Check.NO_PLACE, () -> x.sign(1, 0));
+        sentence(29, "Returns the SIGN there");
+        Run.of("\0\u007f\u0080\u00ff", "b").due("sign(0, 0)", 0).due("sign(0, 1)", 127)
+            .due("sign(0, 2)", 128).due("sign(0, 3)", 255).due("sign(1, 0)", 98);
+        Run.of("b" + "a".repeat(28) + "c").due("sign(0, 0)", 98).due("sign(0, 1)", 97)
+            .due("sign(0, 28)", 97).due("sign(0, 29)", 99);
+        sentence(29, NO_TEXT + ", or no such PLACE in it");
+        Run.each("sign(%, 0)", Run.NO_TEXTS, Run.NO_PLACE, "a", "b", "c");
+        Run.each("sign(0, %)", new String[] {"-1", "0", "MIN", "MAX"}, Run.NO_PLACE, "", "a", "b");
+        Run.each("sign(0, %)", new String[] {"-1", "1", "29", "MIN", "MAX"}, Run.NO_PLACE, "a", "bc");
+        Run.each("sign(0, %)", new String[] {"-1", "30", "31", "MIN", "MAX"}, Run.NO_PLACE, A30);
+        sentence(29, "a PLACE of a SIGN that went is none");
+        Run.of(A30).due("cut(0, 0, 2)", 2).due("sign(0, 2)", Run.NO_PLACE)
+            .due("clear(0)", 2).due("sign(0, 0)", Run.NO_PLACE);
     }
 
     private static void signs() {
-        c.promise(30);
-        Kindcutter x = Check.with(255, 0, 10);
-        Check.set(x, 1, 7);
-        c.due("signs(0)", x.signs(0), "255 0 10");
-        c.due("signs(1)", x.signs(1), "7");
-        c.due("signs(2)", x.signs(2), "");
-        for (int no : NO_TEXTS) {
-            c.throwsIt("signs(" + no + ")", x, Check.NO_PLACE, () -> x.signs(no));
-        }
+        sentence(30, "Returns its SIGNS, as numbers with \" \" between");
+        Run.of("\u00ff\0\n", "z").due("signs(0)", "255 0 10").due("signs(1)", "122");
+        Run.of("\0", "\u00ff").due("signs(0)", "0").due("signs(1)", "255");
+        Run.of(A30).due("signs(0)", "97" + " 97".repeat(29));
+        sentence(30, "\"\" without any");
+        Run.of("", "a", "b").due("signs(0)", "").due("clear(1)", 1).due("signs(1)", "")
+            .due("signs(2)", "98");
+        sentence(30, NO_TEXT);
+        Run.each("signs(%)", Run.NO_TEXTS, Run.NO_PLACE, "a", "b", "c");
     }
 
     private static void kindsOf() {
-        c.promise(31);
-        Kindcutter x = Check.with(187, 0, 65, 255);
-        Check.set(x, 1, 50);
-        c.due("kindsOf(0)", x.kindsOf(0), "30 15 1 2");
-        c.due("kindsOf(1)", x.kindsOf(1), "9");
-        c.due("kindsOf(2)", x.kindsOf(2), "");
-        for (int no : NO_TEXTS) {
-            c.throwsIt("kindsOf(" + no + ")", x, Check.NO_PLACE, () -> x.kindsOf(no));
-        }
+        sentence(31, "Returns the KINDS of its SIGNS, likewise");
+        Run.of("\u00bb\0A\u00ff", "5").due("kindsOf(0)", "30 15 1 2").due("kindsOf(1)", "9");
+        Run.of("\u00bb".repeat(30)).due("kindsOf(0)", "30" + " 30".repeat(29));
+        sentence(31, "\"\" without any");
+        Run.of("", "a").due("kindsOf(0)", "").due("clear(1)", 1).due("kindsOf(1)", "");
+        sentence(31, NO_TEXT);
+        Run.each("kindsOf(%)", Run.NO_TEXTS, Run.NO_PLACE, "a", "b", "c");
     }
 
     private static void count() {
-        c.promise(32);
-        Kindcutter x = Check.with("a1 a\t1a");
-        c.due("count(0, 0)", x.count(0, 0), 7);
-        c.due("count(0, 1)", x.count(0, 1), 3);
-        c.due("count(0, 2)", x.count(0, 2), 2);
-        c.due("count(0, 6)", x.count(0, 6), 0);
-        c.due("count(0, 7)", x.count(0, 7), 2);
-        c.due("count(0, 13)", x.count(0, 13), 0);
-        c.due("count(1, 0)", x.count(1, 0), 0);
-        x.cut(0, 0, 2);
-        c.due("count of those that stay", x.count(0, 0), 2);
-        for (int no : NO_TEXTS) {
-            c.throwsIt("count(" + no + ", 0)", x, Check.NO_PLACE, () -> x.count(no, 0));
-            c.throwsIt("count(" + no + ", 14)", x, Check.NO_PLACE, () -> x.count(no, 14));
+        sentence(32, "Returns of how many PLACES it is so (of the SIGNS there)");
+        Run.of("a1 a\t1a", "1").due("count(0, 0)", 7).due("count(0, 1)", 3).due("count(0, 2)", 2)
+            .due("count(0, 3)", 5).due("count(0, 6)", 0).due("count(0, 7)", 2).due("count(0, 8)", 1)
+            .due("count(0, 9)", 1).due("count(0, 12)", 5).due("count(1, 2)", 1);
+        sentence(32, "a TEXT without SIGNS, with one, with 30");
+        for (int question = 0; question <= 13; question++) {
+            Run.of("", "a").due("count(0, " + question + ")", 0);
         }
-        for (int no : NO_QUESTIONS) {
-            c.throwsIt("count(0, " + no + ")", x, Check.NO_VALUE, () -> x.count(0, no));
-        }
+        Run.of("a", A30).due("count(0, 1)", 1).due("count(0, 2)", 0).due("count(1, 1)", 30)
+            .due("count(1, 0)", 30).due("count(1, 2)", 0);
+        Run.of("1" + "a".repeat(28) + "2").due("count(0, 2)", 2).due("count(0, 1)", 28);
+        sentence(32, NO_TEXT);
+        Run.each("count(%, 0)", Run.NO_TEXTS, Run.NO_PLACE, "a", "b", "c");
+        sentence(32, NO_QUESTION);
+        Run.of("\0").due("count(0, 0)", 1).due("count(0, 13)", 1);
+        Run.each("count(0, %)", Run.NO_QUESTIONS, Run.NO_VALUE, "a");
+        Run.each("count(1, %)", Run.NO_QUESTIONS, Run.NO_VALUE, "a");
+        sentence(32, FIRST_NAMED);
+        Run.each("count(%, 14)", Run.NO_TEXTS, Run.NO_PLACE, "a");
+        Run.each("count(3, %)", Run.NO_QUESTIONS, Run.NO_PLACE, "a");
     }
 
     private static void countKind() {
-        c.promise(33);
-        Kindcutter x = Check.with("a+a-A");
-        c.due("countKind(0, 2)", x.countKind(0, 2), 2);
-        c.due("countKind(0, 1)", x.countKind(0, 1), 1);
-        c.due("countKind(0, 30)", x.countKind(0, 30), 0);
-        c.due("countKind(0, 0)", x.countKind(0, 0), 0);
-        c.due("countKind(1, 2)", x.countKind(1, 2), 0);
-        x.cut(0, 0, 2);
-        c.due("countKind of those that stay", x.countKind(0, 2), 1);
-        Check.set(x, 1, Check.times(30, 97));
-        c.due("countKind of 30", x.countKind(1, 2), 30);
-        for (int no : NO_TEXTS) {
-            c.throwsIt("countKind(" + no + ", 1)", x, Check.NO_PLACE, () -> x.countKind(no, 1));
-            c.throwsIt("countKind(" + no + ", 31)", x, Check.NO_PLACE, () -> x.countKind(no, 31));
-        }
-        for (int no : new int[] {-1, 31, Integer.MIN_VALUE, Integer.MAX_VALUE}) {
-            c.throwsIt("countKind(0, " + no + ")", x, Check.NO_VALUE, () -> x.countKind(0, no));
-        }
+        sentence(33, "Returns at how many PLACES a SIGN of this KIND stands");
+        Run.of("a+a-A", "A").due("countKind(0, 2)", 2).due("countKind(0, 1)", 1)
+            .due("countKind(0, 25)", 1).due("countKind(0, 9)", 0).due("countKind(1, 1)", 1);
+        sentence(33, "a TEXT without SIGNS, with one, with 30");
+        Run.of("", "a", A30).due("countKind(0, 2)", 0).due("countKind(1, 2)", 1)
+            .due("countKind(2, 2)", 30).due("countKind(2, 1)", 0).due("cut(2, 0, 3)", 3)
+            .due("countKind(2, 2)", 3);
+        Run.of("1" + "a".repeat(28) + "2").due("countKind(0, 9)", 2).due("countKind(0, 2)", 28);
+        sentence(33, NO_TEXT);
+        Run.each("countKind(%, 2)", Run.NO_TEXTS, Run.NO_PLACE, "a", "b", "c");
+        sentence(33, "Throws IllegalArgumentException if kind is not 0 to 30");
+        Run.of("\u00bb").due("countKind(0, 0)", 0).due("countKind(0, 30)", 1);
+        Run.each("countKind(0, %)", Run.NO_KINDS, Run.NO_VALUE, "a");
+        Run.each("countKind(1, %)", Run.NO_KINDS, Run.NO_VALUE, "a");
+        sentence(33, FIRST_NAMED);
+        Run.each("countKind(%, 31)", Run.NO_TEXTS, Run.NO_PLACE, "a");
+        Run.each("countKind(3, %)", Run.NO_KINDS, Run.NO_PLACE, "a");
     }
 
     private static void isAll() {
-        c.promise(34);
-        Kindcutter x = Check.with("ab1");
-        c.due("isAll(0, 3)", x.isAll(0, 3), true);
-        c.due("isAll(0, 1)", x.isAll(0, 1), false);
-        c.due("isAll(0, 2)", x.isAll(0, 2), false);
-        c.due("isAll(0, 6)", x.isAll(0, 6), false);
-        c.due("isAll(1, 6)", x.isAll(1, 6), true);
-        Check.set(x, 1, Check.times(30, 48));
-        c.due("isAll of 30", x.isAll(1, 2), true);
-        for (int no : NO_TEXTS) {
-            c.throwsIt("isAll(" + no + ", 0)", x, Check.NO_PLACE, () -> x.isAll(no, 0));
-            c.throwsIt("isAll(" + no + ", 14)", x, Check.NO_PLACE, () -> x.isAll(no, 14));
+        sentence(34, "Returns whether it is so of the SIGNS at all PLACES");
+        Run.of("ab1", "12").due("isAll(0, 3)", true).due("isAll(0, 0)", true).due("isAll(0, 1)", false)
+            .due("isAll(0, 2)", false).due("isAll(0, 6)", false).due("isAll(1, 2)", true);
+        Run.of("a", "1").due("isAll(0, 1)", true).due("isAll(0, 2)", false).due("isAll(1, 2)", true);
+        Run.of(A30, A29 + "1", "1" + A29).due("isAll(0, 1)", true).due("isAll(1, 1)", false)
+            .due("isAll(2, 1)", false).due("isAll(1, 3)", true);
+        sentence(34, "(without any, too)");
+        for (int question = 0; question <= 13; question++) {
+            Run.of("", "a").due("isAll(0, " + question + ")", true);
         }
-        for (int no : NO_QUESTIONS) {
-            c.throwsIt("isAll(0, " + no + ")", x, Check.NO_VALUE, () -> x.isAll(0, no));
-            c.throwsIt("isAll(2, " + no + ")", x, Check.NO_VALUE, () -> x.isAll(2, no));
-        }
+        Run.of("a").due("clear(0)", 1).due("isAll(0, 2)", true);
+        sentence(34, NO_TEXT);
+        Run.each("isAll(%, 0)", Run.NO_TEXTS, Run.NO_PLACE, "a", "b", "c");
+        sentence(34, NO_QUESTION);
+        Run.of("\0").due("isAll(0, 0)", true).due("isAll(0, 13)", true);
+        Run.each("isAll(0, %)", Run.NO_QUESTIONS, Run.NO_VALUE, "a");
+        Run.each("isAll(1, %)", Run.NO_QUESTIONS, Run.NO_VALUE, "a");
+        sentence(34, FIRST_NAMED);
+        Run.each("isAll(%, 14)", Run.NO_TEXTS, Run.NO_PLACE, "a");
+        Run.each("isAll(3, %)", Run.NO_QUESTIONS, Run.NO_PLACE, "a");
     }
 
     private static void first() {
-        c.promise(35);
-        Kindcutter x = Check.with("1a2b3");
-        c.due("first(0, 2, false)", x.first(0, 2, false), 0);
-        c.due("first(0, 2, true)", x.first(0, 2, true), 4);
-        c.due("first(0, 1, false)", x.first(0, 1, false), 1);
-        c.due("first(0, 1, true)", x.first(0, 1, true), 3);
-        c.due("first(0, 7, false)", x.first(0, 7, false), -1);
-        c.due("first(0, 7, true)", x.first(0, 7, true), -1);
-        c.due("first(1, 0, false)", x.first(1, 0, false), -1);
-        for (int no : NO_TEXTS) {
-            c.throwsIt("first(" + no + ", 0, true)", x, Check.NO_PLACE, () -> x.first(no, 0, true));
-            c.throwsIt("first(" + no + ", 14, true)", x, Check.NO_PLACE,
-                () -> x.first(no, 14, true));
+        sentence(35, "Returns the first PLACE at which a SIGN stands of which it is so");
+        Run.of("1a2b3", "a").due("first(0, 2, false)", 0).due("first(0, 1, false)", 1)
+            .due("first(0, 0, false)", 0).due("first(1, 1, false)", 0);
+        Run.of(A29 + "1").due("first(0, 2, false)", 29).due("first(0, 1, false)", 0);
+        sentence(35, "(or the last one)");
+        Run.of("1a2b3", "a").due("first(0, 2, true)", 4).due("first(0, 1, true)", 3)
+            .due("first(0, 0, true)", 4).due("first(1, 1, true)", 0);
+        Run.of(A29 + "1", "1" + A29).due("first(0, 2, true)", 29).due("first(0, 1, true)", 28)
+            .due("first(1, 2, true)", 0).due("first(1, 1, true)", 29);
+        sentence(35, "NONE without");
+        for (int question = 0; question <= 13; question++) {
+            Run.of("", "a").due("first(0, " + question + ", false)", Run.NONE)
+                .due("first(0, " + question + ", true)", Run.NONE);
         }
-        for (int no : NO_QUESTIONS) {
-            c.throwsIt("first(0, " + no + ", false)", x, Check.NO_VALUE,
-                () -> x.first(0, no, false));
-        }
+        Run.of("ab", A30).due("first(0, 2, false)", Run.NONE).due("first(0, 2, true)", Run.NONE)
+            .due("first(1, 6, false)", Run.NONE).due("first(1, 6, true)", Run.NONE);
+        Run.of("a1").due("cut(0, 0, 1)", 1).due("first(0, 2, false)", Run.NONE)
+            .due("first(0, 2, true)", Run.NONE);
+    }
+
+    private static void firstThrows() {
+        sentence(35, NO_TEXT);
+        Run.each("first(%, 0, false)", Run.NO_TEXTS, Run.NO_PLACE, "a", "b", "c");
+        Run.each("first(%, 0, true)", Run.NO_TEXTS, Run.NO_PLACE, "a", "b", "c");
+        sentence(35, NO_QUESTION);
+        Run.of("a\0").due("first(0, 0, false)", 0).due("first(0, 13, false)", 1);
+        Run.each("first(0, %, false)", Run.NO_QUESTIONS, Run.NO_VALUE, "a");
+        Run.each("first(1, %, true)", Run.NO_QUESTIONS, Run.NO_VALUE, "a");
+        sentence(35, FIRST_NAMED);
+        Run.each("first(%, 14, true)", Run.NO_TEXTS, Run.NO_PLACE, "a");
+        Run.each("first(3, %, false)", Run.NO_QUESTIONS, Run.NO_PLACE, "a");
     }
 
     private static void alike() {
-        c.promise(36);
-        Kindcutter x = Check.with("aB1");
-        Check.set(x, 1, 'z', 'Y', '9');
-        c.due("alike(0, 1)", x.alike(0, 1), true);
-        c.due("alike(0, 0)", x.alike(0, 0), true);
-        c.due("alike(0, 2)", x.alike(0, 2), false);
-        x.put(1, 2, 'x');
-        c.due("alike with another kind", x.alike(0, 1), false);
-        x.put(1, 2, '0');
-        x.put(1, 0, '0');
-        c.due("alike with another kind at first", x.alike(0, 1), false);
-        x.drop(1, 2);
-        c.due("alike(0, 1) of a front", x.alike(0, 1), false);
-        c.due("alike(1, 0) of a front", x.alike(1, 0), false);
-        x.clear(0);
-        c.due("alike of none", x.alike(0, 2), true);
-        for (int no : NO_TEXTS) {
-            c.throwsIt("alike(" + no + ", 0)", x, Check.NO_PLACE, () -> x.alike(no, 0));
-            c.throwsIt("alike(0, " + no + ")", x, Check.NO_PLACE, () -> x.alike(0, no));
-        }
+        sentence(36, "whether both have as many SIGNS, and at each PLACE two of the same KIND");
+        Run.of("aB1", "zY9", "aBc").due("alike(0, 1)", true).due("alike(1, 0)", true)
+            .due("alike(0, 2)", false).due("alike(2, 0)", false);
+        Run.of("aB1", "1B1", "aB").due("alike(0, 1)", false).due("alike(0, 2)", false)
+            .due("alike(2, 0)", false);
+        Run.of("a", "b", "1").due("alike(0, 1)", true).due("alike(0, 2)", false);
+        Run.of(A30, "b".repeat(30), A29 + "B").due("alike(0, 1)", true).due("alike(0, 2)", false)
+            .due("drop(2, 29)", 66).due("alike(0, 2)", false).due("alike(2, 0)", false);
+        sentence(36, "two of the same KIND, not of the same QUESTIONS alone");
+        Run.of("\u00aa", "a").due("alike(0, 1)", false);
+        sentence(36, "both without SIGNS, one without");
+        Run.of("", "a", "").due("alike(0, 2)", true).due("alike(0, 1)", false).due("alike(1, 0)", false);
+        sentence(36, "or the same");
+        Run.of("", "a1", A30).due("alike(0, 0)", true).due("alike(1, 1)", true).due("alike(2, 2)", true);
+        sentence(36, NO_TEXT_BOTH);
+        Run.each("alike(%, 0)", Run.NO_TEXTS, Run.NO_PLACE, "a");
+        Run.each("alike(0, %)", Run.NO_TEXTS, Run.NO_PLACE, "a");
+        Run.each("alike(%, %)", Run.NO_TEXTS, Run.NO_PLACE, "a");
+        Run.each("alike(1, %)", Run.NO_TEXTS, Run.NO_PLACE, "a");
     }
 
     private static void names() {
-        name("", false, 0);
-        name("a", true, -1);
-        name("_", true, -1);
-        name("$1", true, -1);
-        name("a1_\0\u00ad\u00a3Z", true, -1);
-        name("1a", false, 0);
-        name("\0a", false, 0);
-        name("\u00ada", false, 0);
-        name("ab c", false, 2);
-        name("a\tb", false, 1);
-        name("a.", false, 1);
-        name("a\u00b2", false, 1);
-        name("aaaaaaaaaaaaaaaaaaaaaaaaaaaaaa", true, -1);
-        name("aaaaaaaaaaaaaaaaaaaaaaaaaaaaa+", false, 29);
-        Kindcutter x = new Kindcutter();
-        for (int no : NO_TEXTS) {
-            c.promise(37);
-            c.throwsIt("isName(" + no + ")", x, Check.NO_PLACE, () -> x.isName(no));
-            c.promise(38);
-            c.throwsIt("fault(" + no + ")", x, Check.NO_PLACE, () -> x.fault(no));
-        }
+        String empty = "a TEXT without SIGNS is no NAME; 0 of a TEXT without SIGNS";
+        name(empty, "", 0);
+        String one = "with one SIGN";
+        name(one, "a", Run.NONE);
+        name(one, "_", Run.NONE);
+        name(one, "$", Run.NONE);
+        name(one, "\u00a5", Run.NONE);
+        name(one, "1", 0);
+        name(one, "\0", 0);
+        name(one, "\u00ad", 0);
+        name(one, " ", 0);
+        String first = "the first SIGN has to be START";
+        name(first, "1a", 0);
+        name(first, "\0a", 0);
+        name(first, "\u00ada", 0);
+        name(first, "+a", 0);
+        name(first, "1 ", 0);
+        name(first, "Aa", Run.NONE);
+        String other = "each other one PART";
+        name(other, "a1_\0\u00ad\u00a3Z\u00aa\u007f", Run.NONE);
+        name(other, "a\b\016\033", Run.NONE);
+        name(other, "ab c+", 2);
+        name(other, "a\tb", 1);
+        name(other, "a\034", 1);
+        name(other, "a.", 1);
+        name(other, "a\u00b2", 1);
+        name(other, "a\u00a0", 1);
+        String thirty = "with 30 SIGNS";
+        name(thirty, A30, Run.NONE);
+        name(thirty, "a" + "1".repeat(29), Run.NONE);
+        name(thirty, A29 + "+", 29);
+        name(thirty, "1".repeat(30), 0);
     }
 
-    private static void name(String signs, boolean isName, int fault) {
-        Kindcutter x = Check.with(signs);
-        c.promise(37);
-        c.due("isName of " + x.signs(0), x.isName(0), isName);
-        c.promise(38);
-        c.due("fault of " + x.signs(0), x.fault(0), fault);
+    private static void name(String words, String signs, int fault) {
+        sentence(37, "Returns whether it is a NAME: " + words);
+        Run.of("", signs).due("isName(1)", fault == Run.NONE).due("house(4)", fault == Run.NONE ? 1 : 0);
+        sentence(38, "Returns the first PLACE at which the SIGN is not let in a NAME: " + words);
+        Run.of("", signs).due("fault(1)", fault);
     }
 
-    private static void askingIsNoAct() {
-        Kindcutter x = Check.with("a1 +");
-        long before = x.digest();
-        x.length(0);
-        x.sign(0, 0);
-        x.signs(0);
-        x.kindsOf(0);
-        x.count(0, 1);
-        x.countKind(0, 2);
-        x.isAll(0, 1);
-        x.first(0, 1, true);
-        x.alike(0, 1);
-        x.isName(0);
-        x.fault(0);
-        x.sort(0, 0, 1);
-        x.longest(0, 0);
-        x.pieces(0);
-        x.piece(0, 0, 0);
-        x.sorts(0);
-        x.cuts(0);
-        x.back(0);
-        x.fewest(0);
-        x.parted(0, 2);
-        c.promise(48);
-        c.due("digest", x.digest(), before);
+    private static void namesThrow() {
+        sentence(37, NO_TEXT);
+        Run.each("isName(%)", Run.NO_TEXTS, Run.NO_PLACE, "a", "b", "c");
+        sentence(38, NO_TEXT);
+        Run.each("fault(%)", Run.NO_TEXTS, Run.NO_PLACE, "a", "b", "c");
     }
 }
