@@ -74,12 +74,12 @@ public final class FaceTest {
     private static final String EXCEPTIONS = "(IllegalState|IllegalArgument|IndexOutOfBounds|Arithmetic"
         + "|UnsupportedOperation|NoSuchElement|Runtime)Exception";
 
-    /** Rules 2, 4, 5, 6 and 13, and no package line; an arrow is let behind a case alone. */
+    /** Rules 2, 4, 5, 6, 10 and 13, and no package line; an arrow is let behind a case alone. */
     private static final List<String> RULED_OUT = List.of("^\\s*package\\b",
         "^\\s*import\\s+(?!java\\.util\\.(ArrayList|List|Arrays|Iterator|NoSuchElementException);).*",
         "^(?!\\s*(case|default)\\b).*->.*", "::", "\\bfinally\\b", "\\bsynchronized\\b", "\\bassert\\b",
         "\\bgetMessage\\b", "\\w*Exact\\(", "\\bSystem\\.(?!arraycopy\\b)\\w*", "\\bThread\\b",
-        "\\bRandom\\b", "\\bstatic\\s*\\{");
+        "\\bRandom\\b", "\\bstatic\\s*\\{", "\"\\s*\\+", "\\+\\s*\"");
 
     public static void main(String[] args) throws IOException {
         methods();
